@@ -855,7 +855,6 @@ public final class LampsAlongStreets {
             return turns() + tourFrom(0);
         }
 
-        /** A ring is unrolled: what isn't reached so far downward must be reached upward. */
         int tourFrom(int start) {
             if (street.isLine()) {
                 return shorterTrip(lowFrom(start), highFrom(start), end - start);
@@ -863,8 +862,13 @@ public final class LampsAlongStreets {
             int size = street.corners;
             int goal = around(end - start, size);
             int best = Integer.MAX_VALUE;
-            for (int down = 0; down < size; down++) {
-                int up = highBelow(size - down, start);
+            int up = 0;
+            // The ring unrolled: lit corners up to this far are reached upward, all others downward.
+            for (int far = 0; far < size; far++) {
+                if (showsAtPlace(around(start + far, size)) > 0) {
+                    up = far;
+                }
+                int down = size - 1 - far;
                 int ahead = shorterTrip(-down, up, goal);
                 int behind = shorterTrip(-down, up, goal - size);
                 best = Math.min(best, Math.min(ahead, behind));
@@ -889,18 +893,6 @@ public final class LampsAlongStreets {
             for (int place = 0; place < lamps.length; place++) {
                 if (lamps[place] > 0) {
                     high = Math.max(high, street.least() + place - start);
-                }
-            }
-            return high;
-        }
-
-        /** The most steps upward from a start, below a limit, to a lit corner of a ring. */
-        private int highBelow(int limit, int start) {
-            int high = 0;
-            for (int corner = 0; corner < street.corners && corner < lamps.length; corner++) {
-                int steps = around(corner - start, street.corners);
-                if (lamps[corner] > 0 && steps < limit) {
-                    high = Math.max(high, steps);
                 }
             }
             return high;
@@ -1102,9 +1094,12 @@ public final class LampsAlongStreets {
         }
 
         void addOnce(int number) {
-            if (howMany(number) == 0) {
-                add(number);
+            for (int i = 0; i < size && i < numbers.length; i++) {
+                if (numbers[i] == number) {
+                    return;
+                }
             }
+            add(number);
         }
 
         boolean has(int i) {
