@@ -8,6 +8,13 @@ public final class AllTests {
         HelperTests.run(check);
         ListTests.run(check);
         ImageTests.run(check);
+        StreetEdges.run(check);
+        LengthEdges.run(check);
+        CallEdges.run(check);
+        HelperEdges.run(check);
+        ListEdges.run(check);
+        ImageEdges.run(check);
+        GridTests.run(check);
         ModelTests.run(check);
         System.out.println("own: " + check.passed() + " passed, " + check.failed() + " failed");
         if (check.failed() > 0) {

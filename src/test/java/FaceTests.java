@@ -143,7 +143,7 @@ final class FaceTests {
         return names;
     }
 
-    private static int places(String name) {
+    static int places(String name) {
         for (String part : FACE.split(";")) {
             if (part.contains(" " + name + "(")) {
                 return part.split("int", -1).length - (part.startsWith("int") ? 2 : 1);

@@ -12,7 +12,7 @@ import java.util.TreeMap;
  * The document said a second time, slowly: walks are maps without bounds, tours are searched for
  * step by step, spheres are grown, orders are multiplied out.
  */
-final class Model {
+final class Model implements Face {
     static final int NONE = -9;
 
     /** A walk: lit lamps alone, by their corners, and an end. Never changed once made. */
@@ -382,7 +382,8 @@ final class Model {
 
     // ---- the face
 
-    long call(String name, int[] a) {
+    @Override
+    public long call(String name, int... a) {
         switch (name) {
             case "letter": return letter(a[0]);
             case "word": return word();

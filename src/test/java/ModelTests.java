@@ -109,11 +109,8 @@ final class ModelTests {
     }
 
     private void both(int run, String name, int... given) {
-        StringBuilder told = new StringBuilder("run " + run + ": " + name + "(");
-        for (int place = 0; place < given.length; place++) {
-            told.append(place > 0 ? ", " : "").append(given[place]);
-        }
-        check.due(told.append(")").toString(), FaceTests.call(x, name, given), model.call(name, given));
+        String call = "run " + run + ": " + Face.told(name, given);
+        check.due(call, FaceTests.call(x, name, given), model.call(name, given));
     }
 
     /** Every set of lit corners and every end of a ring, m 2: all that a walk is asked. */

@@ -37,6 +37,34 @@ final class Told {
         return x;
     }
 
+    /** So many steps upward (below 0: downward). */
+    static String go(int steps) {
+        return steps < 0 ? "T".repeat(-steps) : "t".repeat(steps);
+    }
+
+    /** A word that turns one lamp after another once on, and ends there; never an empty one. */
+    static String lit(int end, int... corners) {
+        StringBuilder text = new StringBuilder("aA");
+        int at = 0;
+        for (int c : corners) {
+            text.append(go(c - at)).append('a');
+            at = c;
+        }
+        return text.append(go(end - at)).toString();
+    }
+
+    /** Gives an object something of each sort, so that there is something to lose; the IMAGE is another state. */
+    static LampsAlongStreets crowded(LampsAlongStreets x) {
+        x.helper(4, 3);
+        x.image();
+        x.helper(1, 9);
+        x.list(0, 2);
+        x.put(0, 1, 7);
+        x.list(2, 0);
+        tell(x, "Ta");
+        return x;
+    }
+
     /** All that can be asked of a walk without changing anything, as a text. */
     static String walk(LampsAlongStreets x, int walk) {
         StringBuilder text = new StringBuilder();
