@@ -125,7 +125,8 @@ final class CallEdges {
 
     private static void faultsInTelling(Check check) {
         fault(check, -1000, "");
-        for (String letters : new String[] {"1", "9", "0", "b", "B", "s", "u", "S", "U", "@", "`", " ", "\0", "\u00ff"}) {
+        for (String letters : new String[] {"1", "9", "0", "b", "B", "s", "u", "S", "U", "@", "`", " ", "\0",
+            "\u00ff"}) {
             fault(check, -1000, letters);
             fault(check, -1001, "a" + (letters.matches("[1-9]") ? "bc" : letters));
         }
@@ -425,8 +426,8 @@ final class CallEdges {
             call("from", 1, 7), call("done", 0, 2), call("lots", 2, 9, 3, 0), call("distance", 0, 2), call("sphere", 4),
             call("of", 2, 6), call("like", 0, 2), call("written", 2, 3)};
         Object[][] then = {call("word"), call("times", 1, 0), call("inverse", 0), call("power", 0, 0), call("power", 0, 2),
-            call("conjugate", 0, 1), call("from", 0, -3), call("done", 0, 0), call("lots", 3, 5, 8, 0), call("distance", 0, 1),
-            call("sphere", 3), call("written", 1, -1), call("helps", 0, 2)};
+            call("conjugate", 0, 1), call("from", 0, -3), call("done", 0, 0), call("lots", 3, 5, 8, 0),
+            call("distance", 0, 1), call("sphere", 3), call("written", 1, -1), call("helps", 0, 2)};
         for (Object[] first : before) {
             for (Object[] second : then) {
                 LampsAlongStreets x = beforeAll();
@@ -443,7 +444,8 @@ final class CallEdges {
                 Told.tell(fresh, "ta");
                 String name = (String) second[0];
                 int[] given = (int[]) second[1];
-                String told = "nothing is left of " + Face.told((String) first[0], (int[]) first[1]) + ": " + Face.told(name, given);
+                String told = "nothing is left of " + Face.told((String) first[0], (int[]) first[1])
+                    + ": " + Face.told(name, given);
                 check.due(told, FaceTests.call(x, name, given), FaceTests.call(fresh, name, given));
                 check.holds(told, Portrait.part(Face.of(x), 0).equals(Portrait.part(Face.of(fresh), 0)));
             }

@@ -8,7 +8,8 @@ final class GridTests {
     private static final int[] WALKS = {LEAST_INT, -1, 0, 1, 4, 5, 6, MOST_INT};
     private static final int[] CORNERS = {LEAST_INT, -13, -12, -1, 0, 2, 3, 7, 8, 12, 13, MOST_INT};
     private static final int[] LISTS = {LEAST_INT, -1, 0, 1, 2, 3, MOST_INT};
-    private static final int[] PLACES = {LEAST_INT, -1, 0, 1, 2, 14, 15, 16, 24, 25, 32, 33, 36, 39, 40, MOST_INT - 7, MOST_INT};
+    private static final int[] PLACES = {LEAST_INT, -1, 0, 1, 2, 14, 15, 16, 24, 25, 32, 33, 36, 39, 40, MOST_INT - 7,
+        MOST_INT};
     private static final int[] HELPERS = {LEAST_INT, -1, 0, 1, 3, 4, MOST_INT};
     private static final int[] KINDS = {LEAST_INT, -1, 0, 1, 2, 3, 4, 5, 6, MOST_INT};
     private static final int[] WHATS = {LEAST_INT, -1, 0, 1, 2, 3, 4, 5, 6, 7, 8, MOST_INT};
@@ -37,7 +38,8 @@ final class GridTests {
 
     private static int[][] about(String name) {
         switch (name) {
-            case "letter": return new int[][] {{LEAST_INT, -1, 0, '0', '1', '9', ':', 'a', 'A', 't', 'T', 'b', 255, 256, MOST_INT}};
+            case "letter": return new int[][] {{LEAST_INT, -1, 0, '0', '1', '9', ':', 'a', 'A', 't', 'T', 'b', 255, 256,
+                MOST_INT}};
             case "street": return new int[][] {PARTS, {LEAST_INT, -1, 0, 2, 3, 4, 7, 8, 9, MOST_INT},
                 {LEAST_INT, -1, 0, 1, 2, 3, 4, 5, 6, MOST_INT}};
             case "of": return new int[][] {WALKS, WHATS};
@@ -148,8 +150,8 @@ final class GridTests {
         return states;
     }
 
-    private static final String[] LINE_WORDS = {Told.lit(-12, 12), Told.lit(12, -12, 0), Told.lit(1, -1, 0, 1), Told.lit(0, -1, 0, 0, 1),
-        Told.lit(6, 6, 5), Told.lit(-7, 0, 3)};
+    private static final String[] LINE_WORDS = {Told.lit(-12, 12), Told.lit(12, -12, 0), Told.lit(1, -1, 0, 1),
+        Told.lit(0, -1, 0, 0, 1), Told.lit(6, 6, 5), Told.lit(-7, 0, 3)};
     private static final String[] RING_WORDS = {"t", "TaTa", "a3tata2T2", "t2aT2", "aA", "ta2ta2tatat"};
 
     private static Object[][] line(int m, int walks) {
