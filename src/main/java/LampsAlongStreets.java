@@ -40,6 +40,7 @@ public final class LampsAlongStreets {
     private static final int SPELLED_MOST = 110;
     // Four letters first, then never the way back: 4 * 3 * 3 * 3 * 3 walks at most have LENGTH 5.
     private static final int SHELL_MOST = 324;
+    private static final int ABOVE_ALL_TOURS = 1000;
 
     private static final int NOBODY = -1;
     private static final int OTHER = -2;
@@ -57,10 +58,9 @@ public final class LampsAlongStreets {
     private static final int REFUSED_FAR = 1000000000;
     private static final long REFUSED_FAR_LONG = 4000000000000000000L;
 
-    private final Scene now = new Scene();
-    private final Scene then = new Scene();
+    private final Scene now = new Scene(new Street());
+    private final Scene then = new Scene(new Street());
     private boolean imageTaken = false;
-    private final Walk spare = new Walk(now.street);
     private final Row told = new Row(TOLD_MOST);
     private final Row spelled = new Row(SPELLED_MOST);
     private final Row shell = new Row(SHELL_MOST);
@@ -206,8 +206,9 @@ public final class LampsAlongStreets {
             return refuse(NOBODY);
         }
         // Seen from the END of g nothing need be moved, so no last CORNER comes in the way.
-        spare.becomeDifference(from, to);
-        return spare.turns() + spare.tourFrom(from.end);
+        Walk difference = now.spare;
+        difference.becomeDifference(from, to);
+        return difference.turns() + difference.tourFrom(from.end);
     }
 
     public int like(int g, int h) {
@@ -242,8 +243,9 @@ public final class LampsAlongStreets {
             return refuse(ROOM);
         }
         shell.clear();
-        spare.clear();
-        gatherShell(spare, 0, k, shell);
+        Walk walk = now.spare;
+        walk.clear();
+        gatherShell(walk, 0, k, shell);
         return shell.size;
     }
 
@@ -289,17 +291,18 @@ public final class LampsAlongStreets {
         if (what != 0 && what != 1) {
             return refuse(OTHER);
         }
+        Walk walk = now.spare;
         int seed = z;
         int lengths = 0;
         int dead = 0;
         for (int lot = 0; lot < n; lot++) {
-            spare.clear();
+            walk.clear();
             for (int i = 0; i < k; i++) {
                 seed = nextSeed(seed);
-                spare.goOn(drawn(seed, LETTER_KINDS));
+                walk.goOn(drawn(seed, LETTER_KINDS));
             }
-            lengths += spare.length();
-            dead += spare.isDead() ? 1 : 0;
+            lengths += walk.length();
+            dead += walk.isDead() ? 1 : 0;
         }
         return what == 0 ? lengths : dead;
     }
@@ -354,13 +357,14 @@ public final class LampsAlongStreets {
         }
         spelled.clear();
         one.spell(spelled);
-        spare.copyFrom(w);
+        Walk tried = now.spare;
+        tried.copyFrom(w);
         for (int i = 0; i < spelled.size; i++) {
-            if (!spare.goOn(spelled.at(i))) {
+            if (!tried.goOn(spelled.at(i))) {
                 return refuse(ROOM);
             }
         }
-        w.copyFrom(spare);
+        w.copyFrom(tried);
         return w.length();
     }
 
@@ -861,7 +865,7 @@ public final class LampsAlongStreets {
             }
             int size = street.corners;
             int goal = around(end - start, size);
-            int best = Integer.MAX_VALUE;
+            int best = ABOVE_ALL_TOURS;
             int up = 0;
             // The ring unrolled: lit corners up to this far are reached upward, all others downward.
             for (int far = 0; far < size; far++) {
@@ -1127,13 +1131,17 @@ public final class LampsAlongStreets {
 
     /** What an image keeps: the street, walks, helpers. */
     private static final class Scene {
-        private final Street street = new Street();
+        private final Street street;
         private final Walk[] walks = new Walk[WALKS_MOST];
         private int walkCount = 0;
+        // No WALK: a call tries out on it what may come to nothing.
+        private final Walk spare;
         private final Turner[] helpers = new Turner[HELPERS_MOST];
         private int helperCount = 0;
 
-        Scene() {
+        Scene(Street street) {
+            this.street = street;
+            spare = new Walk(street);
             for (int i = 0; i < walks.length; i++) {
                 walks[i] = new Walk(street);
             }

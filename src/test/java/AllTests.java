@@ -14,6 +14,8 @@ public final class AllTests {
         HelperEdges.run(check);
         ListEdges.run(check);
         ImageEdges.run(check);
+        TermsTests.run(check);
+        ReadmeTests.run(check);
         GridTests.run(check);
         ModelTests.run(check);
         System.out.println("own: " + check.passed() + " passed, " + check.failed() + " failed");

@@ -5,7 +5,10 @@ import java.nio.file.Files;
 import java.nio.file.Path;
 import java.util.ArrayList;
 import java.util.List;
+import java.util.Set;
 import java.util.TreeSet;
+import java.util.regex.Matcher;
+import java.util.regex.Pattern;
 
 /** The face as the document shows it, the rules of the language that a text tells, and every name. */
 final class FaceTests {
@@ -20,12 +23,19 @@ final class FaceTests {
         "throw", "try", "catch", "finally", "synchronized", "assert", "package", "import", "record", "instanceof Object",
         "->", "::", "@", "volatile", "native", "protected", "var ", "Exact", "toString", "hashCode", ".equals("};
 
+    private static final Pattern LIBRARY =
+        Pattern.compile("\\b(Math|Integer|Long|Short|Byte|Character|Boolean|Double|Float|String|Arrays|System|List|java)\\.\\w+");
+    private static final Set<String> CALLED = Set.of("Math.max", "Math.min", "Math.abs", "Math.floorMod");
+    // A head with its brace at the line's end, and all up to the brace that stands just below the head.
+    private static final Pattern METHOD = Pattern.compile("(?ms)^( +)([^\\n=]*\\) \\{\\n.*?)^\\1\\}$");
+
     private FaceTests() {
     }
 
     static void run(Check check) throws Exception {
         face(check);
         source(check);
+        sizes(check);
         wildArguments(check);
         nothingIsMadeAnew(check);
     }
@@ -72,6 +82,30 @@ final class FaceTests {
             check.holds("the program has no " + word, !code.matches("(?s).*(?<![A-Za-z])\\Q" + word + "\\E.*"));
         }
         check.holds("signs 1 to 127 alone", text.chars().allMatch(c -> c > 0 && c < 128));
+        Matcher library = LIBRARY.matcher(code);
+        while (library.find()) {
+            check.holds("the library has " + library.group(), CALLED.contains(library.group()));
+        }
+        Matcher method = METHOD.matcher(code);
+        while (method.find()) {
+            check.holds("at most sixty lines: " + method.group(2).split("\n")[0], method.group(2).split("\n").length <= 60);
+        }
+    }
+
+    /** Rule 11, of the class and those inside it. */
+    private static void sizes(Check check) {
+        List<Class<?>> classes = new ArrayList<>(List.of(LampsAlongStreets.class.getDeclaredClasses()));
+        classes.add(LampsAlongStreets.class);
+        for (Class<?> c : classes) {
+            long fields = List.of(c.getDeclaredFields()).stream().filter(f -> !Modifier.isStatic(f.getModifiers())).count();
+            check.holds("some twenty fields: " + c, fields <= 20);
+            for (Method method : c.getDeclaredMethods()) {
+                check.holds("at most seven parameters: " + method, method.getParameterCount() <= 7);
+            }
+            for (Constructor<?> made : c.getDeclaredConstructors()) {
+                check.holds("at most seven parameters: " + made, made.getParameterCount() <= 7);
+            }
+        }
     }
 
     /** Every call with every mixture of far numbers, on empty and on full objects: it must answer. */
